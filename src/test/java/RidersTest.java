@@ -87,7 +87,7 @@ public final class RidersTest {
         tellsRider(canopy, 0, 80, 9, 2, 0, 1, -1, 1, 1, 1, 1, -1);
         tellsRider(canopy, 1, 30, 9, 2, 0, 0, -1, 2, 2, 0, 0, -1);
         canopy.pass(1);
-        // line 1: 80 rides (60 + 16) / 17 = 4, twice as 80 * 9 is less than 300? it is not
+        // line 1: 80 rides (60 + 16) / 17 = 4 minutes, and does not get stuck, as 80 * 9 is not less than 300
         tellsRider(canopy, 0, 80, 9, 2, 1, -1, 1, 4, 0, -1, 2, -1);
         tellsRider(canopy, 1, 30, 9, 2, 1, -1, 0, 1, 0, -1, 1, -1);
         canopy.pass(3);

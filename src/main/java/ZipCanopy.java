@@ -792,9 +792,6 @@ public final class ZipCanopy {
         int arrival;
 
         Trip() {
-            state = GONE;
-            platform = NONE;
-            line = NONE;
             arrival = NONE;
         }
 

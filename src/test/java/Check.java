@@ -4,6 +4,11 @@ final class Check {
         void run();
     }
 
+    /** A call on a canopy that is not made yet. */
+    interface Act {
+        void on(ZipCanopy canopy);
+    }
+
     private final String title;
     private int made;
     private int wrong;
@@ -49,6 +54,23 @@ final class Check {
         if (canopy.digest() != before) {
             tell(what + " changed something");
         }
+    }
+
+    /**
+     * As above, and nothing hidden is changed either: a twin that never got the call has the same future, in which
+     * trolleys come up again, riders take the ways that they have and give up when their patience ends.
+     */
+    void refusesWithoutTrace(Scenes.Scene scene, Class<? extends RuntimeException> kind, String what, Act act) {
+        ZipCanopy canopy = scene.make();
+        refuses(canopy, kind, what, () -> act.on(canopy));
+        isTrue(what + " leaves the future as it was", Scenes.storyOf(canopy).equals(Scenes.storyOf(scene.make())));
+    }
+
+    /** A call that only tells something leaves no trace, either. */
+    void leavesNoTrace(Scenes.Scene scene, String what, Act act) {
+        ZipCanopy canopy = scene.make();
+        act.on(canopy);
+        isTrue(what + " changes nothing", Scenes.storyOf(canopy).equals(Scenes.storyOf(scene.make())));
     }
 
     private void tell(String text) {

@@ -259,20 +259,30 @@ public final class LookingAheadTest {
         canopy.build(20, 0, 40);
         canopy.build(40, 0, 10);
         check.same("digest with platforms", canopy.digest(), toldOf(canopy, new int[12]));
-        canopy.span(0, 1, 120, 1);
-        canopy.span(1, 2, 120, 1);
         int[] winds = new int[12];
         for (int minute = 0; minute < 12; minute++) {
             winds[minute] = (minute * 7 + 3) % 10;
-            canopy.setWind(minute, winds[minute]);
         }
+        // one canopy would be asked more often than the 512 times for which something is promised
+        for (int minute = 1; minute < 60; minute++) {
+            ZipCanopy asked = twelveOnTwoLines(winds);
+            asked.pass(minute);
+            check.same("digest in minute " + minute, asked.digest(), toldOf(asked, winds));
+        }
+    }
+
+    private static ZipCanopy twelveOnTwoLines(int[] winds) {
+        ZipCanopy canopy = new ZipCanopy();
+        canopy.build(0, 0, 60);
+        canopy.build(20, 0, 40);
+        canopy.build(40, 0, 10);
+        canopy.span(0, 1, 120, 1);
+        canopy.span(1, 2, 120, 1);
         for (int i = 0; i < 12; i++) {
+            canopy.setWind(i, winds[i]);
             canopy.come(i % 2, 1 + i % 2, 20 + 9 * i, 3 + 5 * i);
         }
-        for (int minute = 0; minute < 60; minute++) {
-            check.same("digest in minute " + minute, canopy.digest(), toldOf(canopy, winds));
-            canopy.pass(1);
-        }
+        return canopy;
     }
 
     private static long toldOf(ZipCanopy canopy, int[] winds) {

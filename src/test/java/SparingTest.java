@@ -5,7 +5,8 @@ import java.lang.management.ManagementFactory;
 public final class SparingTest {
     private static final int MEASURES = 5;
     private static final int CANOPIES = 40;
-    private static final int ROUNDS = 50;
+    /** With the calls that fill a canopy these are 500 calls: as many as it is used for, or nearly. */
+    private static final int ROUNDS = 38;
 
     private static final Check check = new Check("sparing");
     /** Fetched once: fetching it makes objects itself, which would be counted with those of the calls. */

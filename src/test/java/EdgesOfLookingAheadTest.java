@@ -139,7 +139,7 @@ public final class EdgesOfLookingAheadTest {
         check.same("pass(1) in minute 108", canopy.pass(1), 1);
     }
 
-    /** The trolley is 3 minutes on the way down and 3 up: the second leaves in minute 6, with a patience of 7 or more. */
+    /** 3 minutes down and 3 up: the second leaves in minute 6, with a patience of 7 or more. */
     private static void arrivesOfOneWhoseEndComesFirst() {
         for (int patience = 1; patience <= 10; patience++) {
             ZipCanopy canopy = lineOf(30, 17, 1);
@@ -251,7 +251,8 @@ public final class EdgesOfLookingAheadTest {
         canopy.come(0, 1, 120, 60);
         // the second arrives in minute 9, or in minute 4 with one more
         for (int minutes = 1; minutes <= 30; minutes++) {
-            check.same("two riders, advise(" + minutes + ")", canopy.advise(minutes), minutes > 4 && minutes < 10 ? 0 : -1);
+            boolean helps = minutes > 4 && minutes < 10;
+            check.same("two riders, advise(" + minutes + ")", canopy.advise(minutes), helps ? 0 : -1);
         }
     }
 

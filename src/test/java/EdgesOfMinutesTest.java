@@ -173,7 +173,8 @@ public final class EdgesOfMinutesTest {
                 pulled++;
             }
             // as many minutes as there are tens begun
-            check.isTrue("pulled for " + pulled + " over " + length, 10 * pulled >= length && 10 * pulled < length + 10);
+            boolean tens = 10 * pulled >= length && 10 * pulled < length + 10;
+            check.isTrue("pulled for " + pulled + " over " + length, tens);
         }
     }
 

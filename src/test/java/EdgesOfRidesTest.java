@@ -1,4 +1,4 @@
-/** The edges that the blocks on lines, rides, weather and ways name: just stuck, just closed, just carried, as short. */
+/** The edges that the blocks on lines, rides, weather and ways name: just stuck, closed, carried, as short. */
 public final class EdgesOfRidesTest {
     private static final Check check = new Check("edges of rides");
 
@@ -229,7 +229,7 @@ public final class EdgesOfRidesTest {
         check.same("line 5 is nobody's", canopy.line(5, 8), 0);
     }
 
-    /** "with which the rest of the way has as few lines as can be": line 0 has the smallest number, but a longer rest. */
+    /** "with which the rest of the way has as few lines as can be": line 0 has the smallest number alone. */
     private static void wayWhoseRestIsAsShort() {
         ZipCanopy canopy = stairs();
         canopy.span(0, 1, 120, 1);

@@ -432,7 +432,7 @@ public final class EmptyAndFullTest {
         }
     }
 
-    /** "An object is used for at most 512 calls after it has been made": the last of them is answered like the first. */
+    /** "An object is used for at most 512 calls": the last of them is answered like the first. */
     private static void callUpToThe512th() {
         ZipCanopy canopy = new ZipCanopy();
         canopy.build(0, 0, 60);

@@ -116,7 +116,7 @@ public final class RefusalsTest {
         }
     }
 
-    /** "if the bottom is not lower than the top, most is not 20 to 150, or trolleys is not 1 to 3", also behind the 12th. */
+    /** "if the bottom is not lower than the top, most is not 20 to 150, or trolleys is not 1 to 3": even behind 12. */
     private static void promise3ArgumentComesNext() {
         onBoth(ARGUMENT, "span(4, 0, 50, 1) uphill", c -> c.span(4, 0, 50, 1));
         onBoth(ARGUMENT, "span(1, 0, 50, 1) uphill", c -> c.span(1, 0, 50, 1));
@@ -254,7 +254,7 @@ public final class RefusalsTest {
         }
     }
 
-    /** "if weight is not 20 to 120, or patience is not 1 to 60", also behind the 12th, and for one who is at the goal. */
+    /** "if weight is not 20 to 120, or patience is not 1 to 60": even behind 12, and at the goal. */
     private static void promise9ArgumentComesNext() {
         for (int bad : outside(20, 120)) {
             onBoth(ARGUMENT, "come(0, 4, " + bad + ", 5)", c -> c.come(0, 4, bad, 5));

@@ -49,7 +49,7 @@ final class Scenes {
         return canopy;
     }
 
-    /** All places are taken: 8 platforms, 12 lines, 12 riders; 0 is the highest, 1 and 2 are of one height, 7 the lowest. */
+    /** All places are taken. Platform 0 is the highest, 1 and 2 are of one height, 7 is the lowest. */
     static ZipCanopy full() {
         ZipCanopy canopy = new ZipCanopy();
         int[][] trees = {{20, 20, 60}, {10, 20, 45}, {30, 20, 45}, {20, 10, 30}, {20, 30, 30}, {5, 5, 15},

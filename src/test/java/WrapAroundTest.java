@@ -37,8 +37,8 @@ public final class WrapAroundTest {
             ZipCanopy canopy = oneLine();
             canopy.setWind(windy, 6);
             for (int minute = 0; minute < 4 * WIND_MINUTES; minute++) {
-                int due = minute == windy || minute == windy + 12 || minute == windy + 24 || minute == windy + 36 ? 1 : 0;
-                check.same("wind in " + windy + ", closed in minute " + minute, canopy.line(0, 10), due);
+                boolean due = minute == windy || minute == windy + 12 || minute == windy + 24 || minute == windy + 36;
+                check.same("wind in " + windy + ", closed in minute " + minute, canopy.line(0, 10), due ? 1 : 0);
                 canopy.pass(1);
             }
         }
@@ -128,7 +128,7 @@ public final class WrapAroundTest {
         check.same("arrives of the last minute of the table", last.arrives(0), 25);
     }
 
-    /** Open in 0 and 1 only: with one more trolley both leave in the next round, in 12 and 13, otherwise a round apart. */
+    /** Open in 0 and 1 only: with one more trolley both leave in the next round, else a round apart. */
     private static void adviseAcrossTheWrap() {
         ZipCanopy canopy = openOnlyIn(0);
         canopy.setWind(1, 5);

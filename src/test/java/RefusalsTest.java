@@ -158,7 +158,7 @@ public final class RefusalsTest {
         check.refusesWithoutTrace(RefusalsTest::threeAway, STATE, "add(0) to 3 that are away", c -> c.add(0));
     }
 
-    /** A ride takes (60 + 28) / 29 = 3 minutes: in minute 3 the first trolley is down, and the two others still ride. */
+    /** A ride takes (60 + 28) / 29 = 3 minutes: in minute 3 the first trolley is down, and two others still ride. */
     private static ZipCanopy threeAway() {
         ZipCanopy canopy = new ZipCanopy();
         canopy.build(0, 0, 17);

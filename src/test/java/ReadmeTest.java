@@ -52,8 +52,9 @@ public final class ReadmeTest {
 
     /** The call stands in the example, with a comment that begins with the answer. */
     private static void answers(String call, int answer) {
+        String comment = "// " + answer + "\\b.*";
         boolean told = lines.stream().anyMatch(
-                line -> line.startsWith(call) && line.substring(call.length()).trim().matches("// " + answer + "\\b.*"));
+                line -> line.startsWith(call) && line.substring(call.length()).trim().matches(comment));
         check.isTrue("README.md tells that " + call + " answers " + answer, told);
     }
 
